@@ -203,7 +203,7 @@ public final class ModelTest {
     }
 
     public static void main(String[] args) {
-        for (int run = 0; run < 300; run++) {
+        for (int run = 0; run < 160; run++) {
             new ModelTest(run).go();
         }
         Check.end("ModelTest");
