@@ -6,7 +6,7 @@ import java.util.Set;
 import java.util.TreeSet;
 
 /** The document told a second time, slowly and in another way, to compare TradeHall with. */
-final class PlainHall {
+final class PlainHall implements Exchange {
     private static final class Order {
         int number, account, symbol, side, kind, price, extra, left, shown, ends, traded;
         int state = 1;
@@ -95,29 +95,35 @@ final class PlainHall {
         return o;
     }
 
-    long deposit(int a, int amount) {
+    @Override
+    public long deposit(int a, int amount) {
         account(a);
         argument(amount >= 1 && amount <= 1000000000);
+        state(money[a] + amount <= 1000000000000000L);
         known.add(a);
         return money[a] += amount;
     }
 
-    long withdraw(int a, int amount) {
+    @Override
+    public long withdraw(int a, int amount) {
         account(a);
         argument(amount >= 1 && amount <= 1000000000);
         state(money[a] - cash(a, 1) >= amount);
         return money[a] -= amount;
     }
 
-    int grant(int a, int s, int amount) {
+    @Override
+    public int grant(int a, int s, int amount) {
         account(a);
         sym(s);
         argument(amount >= 1 && amount <= 1000000);
+        state(stock[a][s] + amount <= 1000000000);
         known.add(a);
         return stock[a][s] += amount;
     }
 
-    int order(int a, int s, int side, int kind, int price, int amount, int extra) {
+    @Override
+    public int order(int a, int s, int side, int kind, int price, int amount, int extra) {
         account(a);
         sym(s);
         argument(side == 0 || side == 1);
@@ -259,7 +265,8 @@ final class PlainHall {
         }
     }
 
-    int cancel(int a, int n) {
+    @Override
+    public int cancel(int a, int n) {
         Order o = owned(a, n);
         state(o.there());
         int left = o.left;
@@ -267,7 +274,8 @@ final class PlainHall {
         return left;
     }
 
-    int reduce(int a, int n, int less) {
+    @Override
+    public int reduce(int a, int n, int less) {
         Order o = owned(a, n);
         argument(less >= 1);
         state(o.there() && o.left > less);
@@ -279,14 +287,16 @@ final class PlainHall {
         return o.left;
     }
 
-    void until(int a, int n, int t) {
+    @Override
+    public void until(int a, int n, int t) {
         Order o = owned(a, n);
         argument(t >= 0);
         state(o.there() && (t == 0 || t > time));
         o.ends = t;
     }
 
-    int pass(int n) {
+    @Override
+    public int pass(int n) {
         argument(n >= 0 && n <= 1000000);
         time += n;
         int ended = 0;
@@ -299,7 +309,8 @@ final class PlainHall {
         return ended;
     }
 
-    int best(int s, int side) {
+    @Override
+    public int best(int s, int side) {
         sym(s);
         argument(side == 0 || side == 1);
         List<Order> book = book(s, side);
@@ -317,7 +328,8 @@ final class PlainHall {
         return new ArrayList<>(side == 0 ? prices.descendingSet() : prices);
     }
 
-    int depth(int s, int side, int price) {
+    @Override
+    public int depth(int s, int side, int price) {
         sym(s);
         argument(side == 0 || side == 1);
         argument(price >= 0 && price <= 10000);
@@ -327,7 +339,8 @@ final class PlainHall {
         return book(s, side).stream().filter(o -> o.price == price).mapToInt(o -> o.shown).sum();
     }
 
-    int level(int s, int side, int i, int what) {
+    @Override
+    public int level(int s, int side, int i, int what) {
         sym(s);
         if (i < 0) {
             throw new IndexOutOfBoundsException();
@@ -346,13 +359,15 @@ final class PlainHall {
                 .mapToInt(o -> what == 1 ? 1 : o.left).sum();
     }
 
-    int about(int n, int what) {
+    @Override
+    public int about(int n, int what) {
         Order o = numbered(n);
         argument(what >= 0 && what <= 5);
         return new int[] {o.account, o.left, o.shown, o.state, o.ends, o.traded}[what];
     }
 
-    int ahead(int n) {
+    @Override
+    public int ahead(int n) {
         Order o = numbered(n);
         if (o.state != 0) {
             throw new NoSuchElementException();
@@ -361,7 +376,8 @@ final class PlainHall {
                 .filter(x -> x.price == o.price && x.turn < o.turn).mapToInt(x -> x.shown).sum();
     }
 
-    long cash(int a, int what) {
+    @Override
+    public long cash(int a, int what) {
         account(a);
         argument(what == 0 || what == 1);
         if (what == 0) {
@@ -371,7 +387,8 @@ final class PlainHall {
                 .mapToLong(o -> (long) o.price * o.left).sum();
     }
 
-    int shares(int a, int s, int what) {
+    @Override
+    public int shares(int a, int s, int what) {
         account(a);
         sym(s);
         argument(what >= 0 && what <= 3);
@@ -388,13 +405,15 @@ final class PlainHall {
                 .mapToInt(o -> o.traded).sum();
     }
 
-    int count(int what) {
+    @Override
+    public int count(int what) {
         argument(what >= 0 && what <= 4);
         int there = (int) all.stream().filter(Order::there).count();
         return new int[] {trades.size(), all.size(), there, known.size(), time}[what];
     }
 
-    int trade(int i, int what) {
+    @Override
+    public int trade(int i, int what) {
         if (i < 0 || i >= trades.size() || i >= 300) {
             throw new IndexOutOfBoundsException();
         }
@@ -402,7 +421,8 @@ final class PlainHall {
         return trades.get(i)[what];
     }
 
-    int symbol(int s, int what) {
+    @Override
+    public int symbol(int s, int what) {
         sym(s);
         argument(what >= 0 && what <= 3);
         int[] found = {0, 0, 0, 0};
@@ -417,7 +437,8 @@ final class PlainHall {
         return found[what];
     }
 
-    int busiest(int s, int i) {
+    @Override
+    public int busiest(int s, int i) {
         sym(s);
         List<int[]> found = new ArrayList<>();
         for (int a = 0; a < 512; a++) {
