@@ -83,6 +83,25 @@ public final class TradingTest {
         }
     }
 
+    /** "THE BOOK of a symbol and side": each can have all of the hundred, and lose any of them */
+    private static void eachBookCanBeFull() {
+        for (int book = 0; book < 8; book++) {
+            int symbol = book / 2;
+            int side = book % 2;
+            Scene full = Scene.RICH.then(x -> {
+                for (int i = 0; i < 100; i++) {
+                    x.order(1 + side, symbol, side, PLAIN, 50 + i % 3, 1 + i, 0);
+                }
+            });
+            full.due("shown at all prices", 5050, x -> x.depth(symbol, side, 50)
+                    + x.depth(symbol, side, 51) + x.depth(symbol, side, 52));
+            for (int gone : new int[] {0, 1, 2, 50, 97, 98, 99}) {
+                full.due("cancelled " + gone, 1 + gone, x -> x.cancel(1 + side, gone));
+                full.then(x -> x.cancel(1 + side, gone)).asModel("without " + gone);
+            }
+        }
+    }
+
     /** "which shows at most so many (its EXTRA) at a time" */
     private static void layeredShowsAtMostItsExtra() {
         int[][] shown = {{1, 1}, {9, 9}, {10, 10}, {11, 10}, {10000, 10}};
@@ -557,6 +576,7 @@ public final class TradingTest {
     public static void main(String[] args) {
         bookByPrices();
         bookByTurns();
+        eachBookCanBeFull();
         layeredShowsAtMostItsExtra();
         layeredShowsTheNextAsTheLast();
         pricesAllowAtTheSamePrice();
