@@ -1,7 +1,10 @@
+import java.io.IOException;
 import java.lang.reflect.Constructor;
 import java.lang.reflect.Field;
 import java.lang.reflect.Method;
 import java.lang.reflect.Modifier;
+import java.nio.file.Files;
+import java.nio.file.Path;
 import java.util.ArrayList;
 import java.util.HashSet;
 import java.util.List;
@@ -97,7 +100,29 @@ public final class FaceTest {
         Check.same("private methods with a public name", clashing.toString(), "[]");
     }
 
-    public static void main(String[] args) {
+    /** Each line of the document's face stands in the program, but for line breaks. */
+    private static void linesOfTheDocument() throws IOException {
+        String document = Files.readString(Path.of("../shared/DOC.md"));
+        String program = Files.readString(Path.of("src/main/java/TradeHall.java"))
+                .replaceAll("\\s+", " ");
+        int start = document.indexOf("```java\n") + 8;
+        String face = document.substring(start, document.indexOf("```", start));
+        int lines = 0;
+        for (String line : face.lines().toList()) {
+            String due = line.strip();
+            if (due.startsWith("public")) {
+                lines++;
+                boolean stands = program.contains(due)
+                        || program.contains(due.replaceAll(";$", " {"));
+                Check.same("face", stands ? due : "not so", due);
+            }
+        }
+        int found = lines;
+        Check.due("lines of the face", 22, () -> found);
+    }
+
+    public static void main(String[] args) throws IOException {
+        linesOfTheDocument();
         Check.same("class", Modifier.toString(TradeHall.class.getModifiers()), "public final");
         Constructor<?>[] made = TradeHall.class.getDeclaredConstructors();
         Check.due("constructors", 1, () -> made.length);
